@@ -1580,35 +1580,32 @@ public final class TwoRopes {
         void readAll(byte[] text, int length) {
             words = 0;
             syllables = 0;
-            int at = 0;
-            while (at < length && at < text.length) {
-                if (isLetter(text[at])) {
-                    at = readWord(text, at, length);
-                } else {
-                    at++;
+            int runs = 0;
+            boolean inWord = false;
+            boolean inRun = false;
+            for (int at = 0; at < length && at < text.length; at++) {
+                boolean letter = isLetter(text[at]);
+                boolean vowel = isVowel(text[at]);
+                if (letter && !inWord) {
+                    beginWord();
+                    runs = 0;
                 }
+                if (vowel && !inRun) {
+                    runs++;
+                    // the first run is the SYLLABLE that a word has at least
+                    syllables += runs > 1 ? 1 : 0;
+                }
+                inWord = letter;
+                inRun = vowel;
             }
         }
 
-        /** Counts the word that begins at 'from'; the place behind it. */
-        private int readWord(byte[] text, int from, int length) {
-            int runs = 0;
-            boolean inRun = false;
-            int at = from;
-            while (at < length && at < text.length && isLetter(text[at])) {
-                boolean vowel = isVowel(text[at]);
-                if (vowel && !inRun) {
-                    runs++;
-                }
-                inRun = vowel;
-                at++;
-            }
+        private void beginWord() {
             if (words < starts.length) {
                 starts[words] = syllables;
                 words++;
             }
-            syllables += Math.max(runs, 1);
-            return at;
+            syllables++;
         }
 
         private static boolean isVowel(int sign) {

@@ -83,7 +83,7 @@ public final class ModelTest {
             int e = Check.four(bytes, i + 16);
             same("feed", x.feed(a, b, c, d, e), m.feed(a, b, c, d, e));
         }
-        int n = oneIn(30) ? near(1500) : start + bytes.length;
+        int n = oneIn(30) ? near(1500) : oneIn(8) ? start + below(bytes.length + 1) : start + bytes.length;
         same("end " + n, x.end(n), m.end(n));
     }
 

@@ -16,6 +16,7 @@ public final class RhymeTest {
         words("incomprehensibilities", 8, 0);
         words("caf\u00e9s", 2, 0, 1);
         limits();
+        cut();
         counting();
         CHECK.finish();
     }
@@ -46,6 +47,19 @@ public final class RhymeTest {
         CHECK.due("one word", x.about(4), 1);
         CHECK.due("ab", Check.rhyme(x, "ab".repeat(150)), 150);
         CHECK.due("new one", x.about(4), 1);
+    }
+
+    /** What stood on the TAPE behind its end is no part of the RHYME. */
+    private static void cut() {
+        TwoRopes x = new TwoRopes();
+        Check.put(x, "banana nut");
+        x.end(3);
+        CHECK.due("ban", x.rhyme(), 1);
+        CHECK.due("words of ban", x.about(4), 1);
+        Check.put(x, "ba bananana");
+        x.end(3);
+        CHECK.due("ba and a blank", x.rhyme(), 1);
+        CHECK.due("words of ba", x.about(4), 1);
     }
 
     private static void counting() {

@@ -13,6 +13,7 @@ public final class TextTest {
         routinesThatStand();
         routinesWithFaults();
         faultOfRoutineKeeps();
+        cutTexts();
         CHECK.finish();
     }
 
@@ -116,6 +117,11 @@ public final class TextTest {
         fails("trick ninelette worth 1:feet\"-l-r\";", 1, 6);
         fails("trick 5 worth", 2, 6);
         fails("trick x 5", 2, 8);
+        fails("trick x:feet\"-l-r\";", 2, 7);
+        fails("trick x worth:feet\"-l-r\";", 2, 13);
+        fails("trick worth 5:feet\"-l-r\";", 2, 6);
+        fails("trick x worth 5 feet\"-l-r\";", 2, 16);
+        fails("trick x worth 5:\"-l-r\";", 2, 16);
         fails("trick x worth x", 2, 14);
         fails("trick x worth 1234", 1, 14);
         fails("trick x worth 12a", 1, 14);
@@ -271,6 +277,34 @@ public final class TextTest {
         routineFails("beats 5;at x", 2, 11);
         routineFails("beats 5;at 4x 0 in left;", 1, 11);
         routineFails("beats 5;at 4 0 in left;;", 2, 23);
+    }
+
+    /** What stood on the TAPE behind its end is no part of the text. */
+    private static void cutTexts() {
+        cutFails("trick x worth 5", 14, 14, 2);
+        cutFails("trick x worth 5x", 15, 15, 2);
+        cutFails("trick x worth 1234", 17, 17, 2);
+        cutFails("trick xyzxyzxyz", 13, 13, 2);
+        cutFails("trick x worth 5:feet\"-l-r\"", 25, 20, 1);
+        cutFails("trick x worth 5:feet\"-l-r\"", 24, 20, 1);
+        cutFails("trick x worth 5:feet\"-l-r\";", 26, 26, 2);
+        TwoRopes x = new TwoRopes();
+        Check.put(x, "trick x worth 5:feet\"-l-r\";trick");
+        x.end(27);
+        CHECK.due("cut behind a trick", x.book(), 1);
+        Check.put(x, "beats 123;");
+        x.end(9);
+        CHECK.due("cut ahead of ;", x.routine(), -1);
+        CHECK.due("its place", x.fault(1), 9);
+    }
+
+    private static void cutFails(String text, int end, int place, int fault) {
+        TwoRopes x = new TwoRopes();
+        Check.put(x, text);
+        x.end(end);
+        CHECK.due(text + " cut at " + end, x.book(), -1);
+        CHECK.due(text + " cut at " + end + " fault", x.fault(0), fault);
+        CHECK.due(text + " cut at " + end + " place", x.fault(1), place);
     }
 
     private static void faultOfRoutineKeeps() {
