@@ -3,6 +3,7 @@ import java.nio.charset.StandardCharsets;
 /** Counts what a test asks, prints each wrong answer, and ends the test with code 1 if there was one. */
 final class Check {
     private final String name;
+    private String sentence = "";
     private int asked;
     private int wrong;
 
@@ -10,11 +11,17 @@ final class Check {
         this.name = name;
     }
 
+    /** The document's sentence that the answers from here on are asked for. */
+    void of(String newSentence) {
+        sentence = newSentence;
+    }
+
     void due(String call, long got, long want) {
         asked++;
         if (got != want) {
             wrong++;
-            System.out.println(name + ": " + call + " answered " + got + ", due is " + want);
+            String why = sentence.isEmpty() ? "" : " [" + sentence + "]";
+            System.out.println(name + ": " + call + " answered " + got + ", due is " + want + why);
         }
     }
 
