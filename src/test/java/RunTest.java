@@ -7,6 +7,8 @@ public final class RunTest {
         + "trick aoff worth 4:feet\"l--r\"off a 0;trick boff worth 3:feet\"--l-\"off b 0;"
         + "trick none worth 2:feet\"----\"turn 3;trick lone worth 1:feet\"-l---r--\"alone;";
 
+    private static final RunCheck RUN = new RunCheck(CHECK, BOOK);
+
     public static void main(String[] args) {
         rules();
         wrongInputs();
@@ -29,55 +31,8 @@ public final class RunTest {
         CHECK.finish();
     }
 
-    private static TwoRopes start(String lines) {
-        TwoRopes x = new TwoRopes();
-        Check.book(x, BOOK);
-        if (Check.routine(x, lines) < 0) {
-            CHECK.due("fault of " + lines, x.fault(0) * 1000 + x.fault(1), 0);
-        }
-        return x;
-    }
-
-    /** Runs it; the MISSES are as beat, law, person one behind the other. */
-    private static TwoRopes misses(String lines, int... want) {
-        TwoRopes x = start(lines);
-        x.run();
-        CHECK.due(lines + " misses", x.ran(1), want.length / 3);
-        for (int i = 0; i < want.length; i++) {
-            CHECK.due(lines + " miss(" + i / 3 + ", " + i % 3 + ")", x.miss(i / 3, i % 3), want[i]);
-        }
-        return x;
-    }
-
-    private static void where(TwoRopes x, int person, int firstBeat, int... want) {
-        for (int i = 0; i < want.length; i++) {
-            int beat = firstBeat + i;
-            CHECK.due("person(" + person + ", " + beat + ", 0)", x.person(person, beat, 0), want[i]);
-        }
-    }
-
-    private static void foot(TwoRopes x, int person, int firstBeat, int... want) {
-        for (int i = 0; i < want.length; i++) {
-            int beat = firstBeat + i;
-            CHECK.due("person(" + person + ", " + beat + ", 1)", x.person(person, beat, 1), want[i]);
-        }
-    }
-
-    private static void feet(TwoRopes x, int person, int firstTick, int... want) {
-        for (int i = 0; i < want.length; i++) {
-            int tick = firstTick + i;
-            CHECK.due("feet(" + person + ", " + tick + ")", x.feet(person, tick), want[i]);
-        }
-    }
-
-    private static void modes(TwoRopes x, int... want) {
-        for (int beat = 0; beat < want.length; beat++) {
-            CHECK.due("mode(" + beat + ")", x.mode(beat), want[beat]);
-        }
-    }
-
     private static void rules() {
-        TwoRopes x = start("beats 9;at 0 2 in left;at 1 2 does bad;");
+        TwoRopes x = RUN.start("beats 9;at 0 2 in left;at 1 2 does bad;");
         CHECK.due("run", x.run(), -10);
         CHECK.due("still", x.ran(4), 4);
         int[][] wrong = {{-1, 0}, {21, 0}, {0, -1}, {0, 100}, {Integer.MIN_VALUE, 0}, {0, Integer.MAX_VALUE}};
@@ -97,7 +52,7 @@ public final class RunTest {
     }
 
     private static void wrongInputs() {
-        TwoRopes x = start("beats 2;at 0 2 in left;at 0 2 in left;at 0 2 does run;");
+        TwoRopes x = RUN.start("beats 2;at 0 2 in left;at 0 2 in left;at 0 2 does run;");
         CHECK.due("before", x.miss(0, 0), -1);
         CHECK.due("run", x.run(), -5);
         for (int wrong : new int[] {-1, 5, Integer.MIN_VALUE, Integer.MAX_VALUE}) {
@@ -121,15 +76,15 @@ public final class RunTest {
     }
 
     private static void running() {
-        TwoRopes x = misses("beats 4;at 0 2 in left;at 1 3 in right;at 2 2 out left;at 2 3 does jump;");
-        feet(x, 2, 0, 0, 2, 0, 1, 0, 2, 0, 1, -1, -1, -1, -1, -1);
-        feet(x, 3, 0, -1, -1, -1, -1, 0, 1, 0, 2, 0, 3, 0, 0, 0, 1, 0, 2, -1);
-        foot(x, 2, 0, 1, 1, -1, -1, -1);
-        foot(x, 3, 0, -1, 2, 3, 2, -1);
-        where(x, 0, 0, 2, 2, 2, 2, -1);
-        where(x, 1, 0, 3, 3, 3, 3);
-        where(x, 2, 0, 1, 1, 0, 0);
-        where(x, 5, 0, 0, 0, 0, 0);
+        TwoRopes x = RUN.misses("beats 4;at 0 2 in left;at 1 3 in right;at 2 2 out left;at 2 3 does jump;");
+        RUN.feet(x, 2, 0, 0, 2, 0, 1, 0, 2, 0, 1, -1, -1, -1, -1, -1);
+        RUN.feet(x, 3, 0, -1, -1, -1, -1, 0, 1, 0, 2, 0, 3, 0, 0, 0, 1, 0, 2, -1);
+        RUN.foot(x, 2, 0, 1, 1, -1, -1, -1);
+        RUN.foot(x, 3, 0, -1, 2, 3, 2, -1);
+        RUN.where(x, 0, 0, 2, 2, 2, 2, -1);
+        RUN.where(x, 1, 0, 3, 3, 3, 3);
+        RUN.where(x, 2, 0, 1, 1, 0, 0);
+        RUN.where(x, 5, 0, 0, 0, 0, 0);
         CHECK.due("faces", x.person(3, 1, 2), 0);
         CHECK.due("faces of one OUT", x.person(3, 0, 2), -1);
         CHECK.due("trick of one OUT", x.person(3, 0, 3), -1);
@@ -137,49 +92,49 @@ public final class RunTest {
     }
 
     private static void lawOne() {
-        misses("beats 9;at 0 0 in left;at 0 1 out left;at 0 0 does run;at 0 1 takes left;at 0 2 out left;at 0 2 does run;",
+        RUN.misses("beats 9;at 0 0 in left;at 0 1 out left;at 0 0 does run;at 0 1 takes left;at 0 2 out left;at 0 2 does run;",
             0, 1, 0, 0, 1, 1, 0, 1, 0, 0, 1, 1, 0, 1, 2, 0, 1, 2);
-        misses("beats 9;at 0 2 in left;at 0 2 in right;at 1 2 does spin;at 2 2 out left;at 2 2 does run;at 2 2 takes left;",
+        RUN.misses("beats 9;at 0 2 in left;at 0 2 in right;at 1 2 does spin;at 2 2 out left;at 2 2 does run;at 2 2 takes left;",
             0, 1, 2, 2, 1, 2, 2, 1, 2, 2, 1, 2);
         // who takes and who gives are BUSY in both BEATS; the end can't be taken twice
-        misses("beats 9;at 0 2 takes left;at 0 3 takes left;at 0 2 in left;at 0 0 takes right;at 1 2 out left;at 1 0 in left;"
+        RUN.misses("beats 9;at 0 2 takes left;at 0 3 takes left;at 0 2 in left;at 0 0 takes right;at 1 2 out left;at 1 0 in left;"
             + "at 1 4 takes left;at 2 2 in left;at 2 0 in left;at 3 5 takes left;",
             0, 1, 3, 0, 1, 2, 0, 1, 0, 1, 1, 2, 1, 1, 0, 1, 1, 4, 2, 1, 2);
-        misses("beats 9;at 0 2 in left;at 1 2 takes left;at 1 2 does run;at 1 2 out left;", 1, 1, 2, 1, 1, 2);
+        RUN.misses("beats 9;at 0 2 in left;at 1 2 takes left;at 1 2 does run;at 1 2 out left;", 1, 1, 2, 1, 1, 2);
     }
 
     private static void lawTwo() {
-        misses("beats 9;at 0 2 in left;at 0 3 in left;at 0 4 in right;at 0 5 in right;at 1 4 takes left;at 1 5 in right;",
+        RUN.misses("beats 9;at 0 2 in left;at 0 3 in left;at 0 4 in right;at 0 5 in right;at 1 4 takes left;at 1 5 in right;",
             0, 2, 5);
         // the least law: a fourth one ahead of the way in and of an alone one
-        misses("beats 9;at 0 2 in left;at 0 3 in left;at 0 4 in right;at 1 2 does dub;at 2 5 in right;at 3 5 in right;", 2, 2, 5, 3, 2, 5);
+        RUN.misses("beats 9;at 0 2 in left;at 0 3 in left;at 0 4 in right;at 1 2 does dub;at 2 5 in right;at 3 5 in right;", 2, 2, 5, 3, 2, 5);
     }
 
     private static void lawThree() {
-        misses("beats 9;at 0 2 in left;at 1 2 does dub;at 1 3 in left;at 1 3 out left;at 2 3 in left;at 2 3 in right;at 3 3 in left;",
+        RUN.misses("beats 9;at 0 2 in left;at 1 2 does dub;at 1 3 in left;at 1 3 out left;at 2 3 in left;at 2 3 in right;at 3 3 in left;",
             2, 3, 3, 2, 3, 3);
-        misses("beats 9;at 0 2 in left;at 1 2 does aoff;at 2 3 in left;at 2 4 in right;", 2, 3, 3);
-        misses("beats 9;at 0 2 in left;at 1 2 does boff;at 2 3 in right;at 2 4 in left;", 2, 3, 3);
+        RUN.misses("beats 9;at 0 2 in left;at 1 2 does aoff;at 2 3 in left;at 2 4 in right;", 2, 3, 3);
+        RUN.misses("beats 9;at 0 2 in left;at 1 2 does boff;at 2 3 in right;at 2 4 in left;", 2, 3, 3);
         // the BEAT before is the last one that was not still
-        misses("beats 9;at 0 2 in left;at 0 3 in left;at 1 2 does dub;at 1 3 does run;at 6 4 in left;at 7 4 in left;",
+        RUN.misses("beats 9;at 0 2 in left;at 0 3 in left;at 1 2 does dub;at 1 3 does run;at 6 4 in left;at 7 4 in left;",
             1, 7, 2, 6, 3, 4);
-        misses("beats 9;at 0 2 in left;at 0 3 in left;at 1 2 does dub;at 1 3 does run;at 6 4 in left;at 6 2 in left;",
+        RUN.misses("beats 9;at 0 2 in left;at 0 3 in left;at 1 2 does dub;at 1 3 does run;at 6 4 in left;at 6 2 in left;",
             1, 7, 2, 6, 3, 4, 6, 1, 2);
     }
 
     private static void lawFour() {
-        TwoRopes x = misses("beats 9;at 0 2 in left;at 1 2 out right;at 1 2 out left;at 2 2 in right;at 3 2 out left;at 3 2 out right;",
+        TwoRopes x = RUN.misses("beats 9;at 0 2 in left;at 1 2 out right;at 1 2 out left;at 2 2 in right;at 3 2 out left;at 3 2 out right;",
             1, 4, 2, 3, 4, 2);
-        where(x, 2, 0, 1, 0, 1, 0);
+        RUN.where(x, 2, 0, 1, 0, 1, 0);
         // both feet, or none: either way out
-        misses("beats 9;at 0 2 in right;at 1 2 does jump;at 2 2 out left;at 3 2 in right;at 4 2 does jump;at 5 2 out right;");
-        misses("beats 9;at 0 2 in right;at 1 2 does bad;at 6 2 out left;at 7 2 in left;", 1, 9, 2);
+        RUN.misses("beats 9;at 0 2 in right;at 1 2 does jump;at 2 2 out left;at 3 2 in right;at 4 2 does jump;at 5 2 out right;");
+        RUN.misses("beats 9;at 0 2 in right;at 1 2 does bad;at 6 2 out left;at 7 2 in left;", 1, 9, 2);
     }
 
     private static void lawFive() {
-        misses("beats 9;at 0 2 in left;at 0 2 does jump;at 1 2 does jump mirrored;at 2 2 does solo;at 3 2 does jump;",
+        RUN.misses("beats 9;at 0 2 in left;at 0 2 does jump;at 1 2 does jump mirrored;at 2 2 does solo;at 3 2 does jump;",
             0, 5, 2, 2, 5, 2);
-        TwoRopes x = misses("beats 9;at 0 2 in left;at 0 2 does spin mirrored;at 2 2 does solo;at 3 2 does spin;at 5 2 does spin;at 7 2 does solo;",
+        TwoRopes x = RUN.misses("beats 9;at 0 2 in left;at 0 2 does spin mirrored;at 2 2 does solo;at 3 2 does spin;at 5 2 does spin;at 7 2 does solo;",
             2, 5, 2);
         CHECK.due("faces", x.person(2, 0, 2), 0);
         CHECK.due("faces", x.person(2, 1, 2), 3);
@@ -190,87 +145,87 @@ public final class RunTest {
     }
 
     private static void lawSix() {
-        misses("beats 9;at 0 2 in left;at 0 3 in left;at 1 2 does lone;at 2 3 out left;at 2 2 does lone;at 3 3 in left;at 4 3 in left;",
+        RUN.misses("beats 9;at 0 2 in left;at 0 3 in left;at 1 2 does lone;at 2 3 out left;at 2 2 does lone;at 3 3 in left;at 4 3 in left;",
             1, 6, 2, 3, 6, 3);
-        misses("beats 9;at 0 2 in left;at 0 2 does lone;at 0 3 in left;at 1 3 takes left;at 2 4 in left;", 0, 6, 3);
+        RUN.misses("beats 9;at 0 2 in left;at 0 2 does lone;at 0 3 in left;at 1 3 takes left;at 2 4 in left;", 0, 6, 3);
         // the least law: FACES ahead of alone
-        misses("beats 9;at 0 2 in left;at 0 3 in left;at 1 2 does solo;", 1, 5, 2);
+        RUN.misses("beats 9;at 0 2 in left;at 0 3 in left;at 1 2 does solo;", 1, 5, 2);
         // one who takes an end is no longer IN
-        misses("beats 9;at 0 2 in left;at 0 3 in left;at 1 3 takes left;at 1 2 does lone;");
+        RUN.misses("beats 9;at 0 2 in left;at 0 3 in left;at 1 3 takes left;at 1 2 does lone;");
     }
 
     private static void lawSeven() {
-        TwoRopes x = misses("beats 9;at 0 4 in left;at 0 3 in right;at 0 2 in left;at 1 4 does dub;at 1 3 does aoff;", 1, 7, 3);
-        modes(x, 0, 2, 4, 4, 4, 4, 0, 0, 0);
-        feet(x, 4, 4, 0, 3, 0, 0);
-        feet(x, 2, 4, 0, 2, 0, 1, 0, 0, 0, 0);
-        foot(x, 2, 0, 1, 0, 0, 0, 0, 0, 2);
-        foot(x, 4, 0, 1, 0);
+        TwoRopes x = RUN.misses("beats 9;at 0 4 in left;at 0 3 in right;at 0 2 in left;at 1 4 does dub;at 1 3 does aoff;", 1, 7, 3);
+        RUN.modes(x, 0, 2, 4, 4, 4, 4, 0, 0, 0);
+        RUN.feet(x, 4, 4, 0, 3, 0, 0);
+        RUN.feet(x, 2, 4, 0, 2, 0, 1, 0, 0, 0, 0);
+        RUN.foot(x, 2, 0, 1, 0, 0, 0, 0, 0, 2);
+        RUN.foot(x, 4, 0, 1, 0);
         CHECK.due("done", x.ran(2), 0);
         CHECK.due("trick void", x.person(4, 1, 3), -1);
         // ahead of 8 and 9; one trick with any MODE is no clash with those who run
-        misses("beats 9;at 0 4 in left;at 0 3 in right;at 1 4 does dub;at 1 3 does bad;at 1 5 takes left;", 1, 7, 3);
-        misses("beats 9;at 0 4 in left;at 0 3 in right;at 1 4 does dub;");
+        RUN.misses("beats 9;at 0 4 in left;at 0 3 in right;at 1 4 does dub;at 1 3 does bad;at 1 5 takes left;", 1, 7, 3);
+        RUN.misses("beats 9;at 0 4 in left;at 0 3 in right;at 1 4 does dub;");
     }
 
     private static void lawEight() {
-        misses("beats 9;at 0 2 in left;at 1 2 does dub;at 1 5 takes left;at 1 4 takes right;", 1, 8, 4);
+        RUN.misses("beats 9;at 0 2 in left;at 1 2 does dub;at 1 5 takes left;at 1 4 takes right;", 1, 8, 4);
         // in the second BEAT, too; ahead of 9
-        TwoRopes x = misses("beats 9;at 0 2 in left;at 1 5 takes left;at 2 2 does dub;", 2, 8, 5);
-        where(x, 5, 0, 0, 4, 2, 2);
-        where(x, 0, 0, 2, 2, 0, 0);
-        x = misses("beats 20;at 0 2 in left;at 1 5 takes left;at 1 2 does dub;at 6 2 does aoff;", 1, 8, 5, 6, 8, 5);
-        where(x, 5, 0, 0, 4, 4, 4, 4, 4, 2);
-        misses("beats 9;at 0 2 in left;at 1 5 takes left;at 3 2 does dub;");
+        TwoRopes x = RUN.misses("beats 9;at 0 2 in left;at 1 5 takes left;at 2 2 does dub;", 2, 8, 5);
+        RUN.where(x, 5, 0, 0, 4, 2, 2);
+        RUN.where(x, 0, 0, 2, 2, 0, 0);
+        x = RUN.misses("beats 20;at 0 2 in left;at 1 5 takes left;at 1 2 does dub;at 6 2 does aoff;", 1, 8, 5, 6, 8, 5);
+        RUN.where(x, 5, 0, 0, 4, 4, 4, 4, 4, 2);
+        RUN.misses("beats 9;at 0 2 in left;at 1 5 takes left;at 3 2 does dub;");
     }
 
     private static void lawNine() {
-        TwoRopes x = misses("beats 9;at 0 4 in left;at 0 2 in left;at 0 3 in left;at 1 4 does bad;at 1 2 does bad;at 1 5 takes left;",
+        TwoRopes x = RUN.misses("beats 9;at 0 4 in left;at 0 2 in left;at 0 3 in left;at 1 4 does bad;at 1 2 does bad;at 1 5 takes left;",
             1, 9, 2, 1, 9, 4);
-        foot(x, 3, 0, 1, 0, 0, 0, 0, 0, 2);
-        feet(x, 2, 4, 1, 0, 0, 2);
-        feet(x, 3, 4, 0, 2, 0, 1);
-        feet(x, 3, 24, 0, 1, 0, 2);
-        where(x, 5, 1, 4, 4, 4, 4, 4, 2);
+        RUN.foot(x, 3, 0, 1, 0, 0, 0, 0, 0, 2);
+        RUN.feet(x, 2, 4, 1, 0, 0, 2);
+        RUN.feet(x, 3, 4, 0, 2, 0, 1);
+        RUN.feet(x, 3, 24, 0, 1, 0, 2);
+        RUN.where(x, 5, 1, 4, 4, 4, 4, 4, 2);
         CHECK.due("score", x.run(), -20);
     }
 
     private static void stillBeats() {
-        TwoRopes x = misses("beats 12;at 0 2 in left;at 1 2 does bad;at 2 3 in left;at 3 0 in left;at 5 2 out left;at 6 2 does run;", 1, 9, 2);
-        where(x, 2, 0, 1, 1, 1, 1, 1, 1, 1);
-        where(x, 3, 0, 0, 0, 0, 0, 0, 0, 0);
-        feet(x, 2, 8, 0, 0, 0, 0);
-        feet(x, 3, 8, -1, -1, -1, -1);
-        modes(x, 0, 0, 4, 4, 4, 4, 0);
+        TwoRopes x = RUN.misses("beats 12;at 0 2 in left;at 1 2 does bad;at 2 3 in left;at 3 0 in left;at 5 2 out left;at 6 2 does run;", 1, 9, 2);
+        RUN.where(x, 2, 0, 1, 1, 1, 1, 1, 1, 1);
+        RUN.where(x, 3, 0, 0, 0, 0, 0, 0, 0, 0);
+        RUN.feet(x, 2, 8, 0, 0, 0, 0);
+        RUN.feet(x, 3, 8, -1, -1, -1, -1);
+        RUN.modes(x, 0, 0, 4, 4, 4, 4, 0);
         CHECK.due("still", x.ran(4), 4);
         CHECK.due("done", x.done(0, 0), 6);
     }
 
     private static void changes() {
-        TwoRopes x = misses("beats 9;at 0 2 in left;at 1 2 takes left;at 1 3 takes right;at 3 0 in left;at 3 1 takes right;at 3 2 takes right;", 3, 1, 2);
-        where(x, 2, 0, 1, 4, 2, 2, 2);
-        where(x, 0, 0, 2, 2, 0, 1, 1);
-        where(x, 3, 0, 0, 5, 3, 3, 0);
-        where(x, 1, 0, 3, 3, 0, 5, 3);
-        feet(x, 2, 3, 1, -1, -1, -1, -1);
-        foot(x, 2, 0, 1, -1, -1);
+        TwoRopes x = RUN.misses("beats 9;at 0 2 in left;at 1 2 takes left;at 1 3 takes right;at 3 0 in left;at 3 1 takes right;at 3 2 takes right;", 3, 1, 2);
+        RUN.where(x, 2, 0, 1, 4, 2, 2, 2);
+        RUN.where(x, 0, 0, 2, 2, 0, 1, 1);
+        RUN.where(x, 3, 0, 0, 5, 3, 3, 0);
+        RUN.where(x, 1, 0, 3, 3, 0, 5, 3);
+        RUN.feet(x, 2, 3, 1, -1, -1, -1, -1);
+        RUN.foot(x, 2, 0, 1, -1, -1);
         CHECK.due("trick of one who takes", x.person(2, 1, 3), -1);
         CHECK.due("faces of one who takes", x.person(2, 1, 2), -1);
     }
 
     private static void changesWait() {
-        TwoRopes x = misses("beats 12;at 0 2 in left;at 1 4 takes right;at 1 2 does bad;at 4 4 in left;at 6 1 in left;at 7 1 in left;",
+        TwoRopes x = RUN.misses("beats 12;at 0 2 in left;at 1 4 takes right;at 1 2 does bad;at 4 4 in left;at 6 1 in left;at 7 1 in left;",
             1, 9, 2, 6, 1, 1);
-        where(x, 4, 0, 0, 5, 5, 5, 5, 5, 3, 3);
-        where(x, 1, 0, 3, 3, 3, 3, 3, 3, 0, 1);
+        RUN.where(x, 4, 0, 0, 5, 5, 5, 5, 5, 3, 3);
+        RUN.where(x, 1, 0, 3, 3, 3, 3, 3, 3, 0, 1);
         // it ends behind its second BEAT even if that breaks off
-        x = misses("beats 12;at 0 2 in left;at 1 4 takes right;at 2 2 does bad;", 2, 9, 2);
-        where(x, 4, 0, 0, 5, 3, 3);
-        where(x, 1, 0, 3, 3, 0, 0);
+        x = RUN.misses("beats 12;at 0 2 in left;at 1 4 takes right;at 2 2 does bad;", 2, 9, 2);
+        RUN.where(x, 4, 0, 0, 5, 3, 3);
+        RUN.where(x, 1, 0, 3, 3, 0, 0);
     }
 
     private static void gains() {
-        TwoRopes x = misses("beats 20;at 0 3 in left;at 0 2 in left;at 1 3 does jump mirrored;at 1 2 does jump mirrored;at 2 2 does spin;"
+        TwoRopes x = RUN.misses("beats 20;at 0 3 in left;at 0 2 in left;at 1 3 does jump mirrored;at 1 2 does jump mirrored;at 2 2 does spin;"
             + "at 2 3 does run;at 3 3 does run mirrored;at 4 3 does run;at 19 3 does spin;");
         CHECK.due("score", x.run(), 9 + 4 + 5 + 20 + 2);
         CHECK.due("gained", x.ran(3), 40);
@@ -282,13 +237,13 @@ public final class RunTest {
             }
         }
         CHECK.due("one that does not end", x.person(3, 19, 3), 2);
-        CHECK.due("worth 7 cut", start("beats 3;").run(), 0);
+        CHECK.due("no line", RUN.start("beats 3;").run(), 0);
     }
 
     private static void middleOfTricks() {
-        TwoRopes x = misses("beats 9;at 0 2 in left;at 0 2 does spin;at 2 2 does lone;at 4 2 does none;at 5 2 does none mirrored;");
-        foot(x, 2, 0, 2, 2, 1, 2, 2, 2);
-        feet(x, 2, 8, 0, 1, 0, 0, 0, 2, 0, 0, 0, 0, 0, 0);
+        TwoRopes x = RUN.misses("beats 9;at 0 2 in left;at 0 2 does spin;at 2 2 does lone;at 4 2 does none;at 5 2 does none mirrored;");
+        RUN.foot(x, 2, 0, 2, 2, 1, 2, 2, 2);
+        RUN.feet(x, 2, 8, 0, 1, 0, 0, 0, 2, 0, 0, 0, 0, 0, 0);
         int[] faces = {0, 1, 1, 1, 0, 1};
         int[] tricks = {2, -1, 9, -1, -1, -1};
         for (int beat = 0; beat < faces.length; beat++) {
@@ -298,12 +253,12 @@ public final class RunTest {
     }
 
     private static void runAgain() {
-        TwoRopes x = start("beats 9;at 0 2 in left;at 1 3 takes left;at 4 2 does run;at 5 2 does run;at 6 0 does run;");
+        TwoRopes x = RUN.start("beats 9;at 0 2 in left;at 1 3 takes left;at 4 2 does run;at 5 2 does run;at 6 0 does run;");
         for (int i = 0; i < 3; i++) {
             CHECK.due("run " + i, x.run(), -3);
             CHECK.due("misses", x.ran(1), 1);
             CHECK.due("gained", x.ran(3), 7);
-            where(x, 0, 0, 2, 2, 0);
+            RUN.where(x, 0, 0, 2, 2, 0);
         }
     }
 }
