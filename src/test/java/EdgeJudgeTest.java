@@ -41,18 +41,18 @@ public final class EdgeJudgeTest {
 
     private static void tapeNoSign() {
         CHECK.of("22: NONE: a byte is no sign (none comes)");
-        TwoRopes x = new TwoRopes();
-        CHECK.due("all signs", Check.tape(x, "-lrb?", 0, 0, 0), 0);
         for (char sign : new char[] {0, ' ', '\n', '.', ',', '>', '@', 'L', 'R', 'B', 'a', 'c', 'k', 'm', 'q', 's', '_', 127, 173, 255}) {
-            for (String text : new String[] {"" + sign, "rrrr" + sign, sign + "rrrr", "r".repeat(199) + sign}) {
+            TwoRopes x = new TwoRopes();
+            CHECK.due("all signs", Check.tape(x, "-lrb?", 0, 0, 0), 0);
+            for (String text : new String[] {"" + sign, "rrrrrr" + sign, sign + "rrrrrr", "r".repeat(199) + sign}) {
                 CHECK.due("sign " + (int) sign, Check.tape(x, text, 1, 0, 0), -1);
                 CHECK.due("TAPES", x.about(2), 1);
                 CHECK.due("the TAPE is empty", x.about(5), 0);
             }
+            CHECK.due("nothing was told", x.seen(0, 1, 0), 1);
+            CHECK.due("the next number", Check.tape(x, "l", 1, 0, 0), 1);
+            CHECK.due("nothing is left of it", x.seen(0, 5, 0), 4);
         }
-        CHECK.due("nothing was told", x.seen(0, 1, 0), 1);
-        CHECK.due("the next number", Check.tape(x, "l", 1, 0, 0), 1);
-        CHECK.due("nothing is left of it", x.seen(0, 5, 0), 4);
     }
 
     private static void tapeTooLong() {

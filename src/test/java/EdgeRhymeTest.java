@@ -179,6 +179,7 @@ public final class EdgeRhymeTest {
             CHECK.due("by two of " + n, x.stays(n), byTwo[n - 1]);
         }
         for (int syllables : new int[] {3, 5, 6, 7, 99, 100, 101, 150}) {
+            x = new TwoRopes();
             Check.rhyme(x, "a ".repeat(syllables));
             for (int n = 1; n <= 100; n++) {
                 CHECK.due("by " + syllables + " of " + n, x.stays(n), ring(n, syllables));

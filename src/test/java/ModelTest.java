@@ -9,6 +9,10 @@ public final class ModelTest {
     private static final String[] NAMES = {"run", "jump", "spin", "dub", "solo", "bad", "idle", "hop", "kick", "wave", "sit", "roll", "eightlet", "go"};
     private static final int[] EXTREMES = {Integer.MIN_VALUE, Integer.MAX_VALUE, -1, -2, 200, 800, 1000000};
 
+    // An object is used for at most 512 calls.
+    private static final int MOST_CALLS = 512;
+    private static final int MOST_CALLS_OF_ONE_STEP = 130;
+
     private final Check check;
     private final Random chance;
     private final TwoRopes x = new TwoRopes();
@@ -24,7 +28,7 @@ public final class ModelTest {
 
     public static void main(String[] args) {
         Check check = new Check("ModelTest");
-        int runs = args.length > 0 ? Integer.parseInt(args[0]) : 400;
+        int runs = args.length > 0 ? Integer.parseInt(args[0]) : 500;
         for (int seed = 0; seed < runs; seed++) {
             new ModelTest(check, seed).go();
         }
@@ -54,7 +58,7 @@ public final class ModelTest {
     }
 
     private void go() {
-        while (calls < 440) {
+        while (calls + MOST_CALLS_OF_ONE_STEP <= MOST_CALLS) {
             switch (below(12)) {
                 case 0: text(aBook()); same("book", x.book(), m.book()); faults(); tricks(); break;
                 case 1: case 2: text(aRoutine()); same("routine", x.routine(), m.routine()); faults(); break;

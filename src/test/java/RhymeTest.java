@@ -66,6 +66,7 @@ public final class RhymeTest {
         TwoRopes x = new TwoRopes();
         CHECK.due("no RHYME", x.stays(1), -1);
         for (int syllables : new int[] {1, 2, 3, 7, 16, 99, 150}) {
+            x = new TwoRopes();
             Check.rhyme(x, "a ".repeat(syllables));
             for (int n = 1; n <= 100; n++) {
                 CHECK.due(syllables + " stays(" + n + ")", x.stays(n), ring(n, syllables));
