@@ -1035,7 +1035,6 @@ public final class TwoRopes {
             for (int end = 0; end < 2; end++) {
                 holder[end] = end;
                 taker[end] = NONE;
-                halfTaken[end] = false;
             }
             modeBefore = PLAIN;
         }

@@ -21,6 +21,8 @@ public final class EdgeJoinTest {
         firstByNumbers();
         plainAheadOfMirrored();
         allTwelve();
+        eachAskedForItself();
+        newBook();
         CHECK.finish();
     }
 
@@ -251,5 +253,49 @@ public final class EdgeJoinTest {
         x = book(tricks);
         CHECK.due("worth", x.best(200, 3, 0), 12);
         CHECK.due("first", x.joined(200, 3, 0, 0, 0), 3);
+    }
+
+    private static void eachAskedForItself() {
+        CHECK.of("17, 18: each call answers for its own n, FOOT and FACES, whatever was asked before");
+        for (int first = 0; first < 32; first++) {
+            TwoRopes x = book("5:feet\"-l-r\"facing 0 from l");
+            for (int second = 0; second < 32; second++) {
+                askOne(x, first);
+                askOne(x, second);
+            }
+        }
+        TwoRopes x = book("5:feet\"-l-r-l-r\"", "6:feet\"-l-r\"");
+        CHECK.due("joined ahead of best", x.joined(3, 0, 0, 1, 0), 1);
+        CHECK.due("joined of another n", x.joined(1, 0, 0, 0, 0), 1);
+        CHECK.due("joined of another n", x.joined(3, 0, 0, 0, 0), 0);
+        CHECK.due("best of one n", x.best(1, 0, 0), 6);
+        CHECK.due("joined of another n", x.joined(3, 0, 0, 0, 0), 0);
+    }
+
+    /** The trick can be done in one BEAT, from l, or mirrored from r, with FACES 0. */
+    private static void askOne(TwoRopes x, int number) {
+        int n = number / 16;
+        int foot = number / 4 % 4;
+        int faces = number % 4;
+        boolean can = n == 1 && faces == 0 && (foot == 1 || foot == 2);
+        CHECK.due("joined(" + n + ", " + foot + ", " + faces + ")", x.joined(n, foot, faces, 0, 1), can ? foot - 1 : -1);
+        CHECK.due("best(" + n + ", " + foot + ", " + faces + ")", x.best(n, foot, faces), can ? 5 : 0);
+    }
+
+    private static void newBook() {
+        CHECK.of("17, 18: of the BOOK that there is, with nothing of the one before");
+        TwoRopes x = book("5:feet\"----\"", "5:feet\"----\"", "5:feet\"----\"", "5:feet\"----\"");
+        row(x, 9, 0, 0, 20, 0, 2, 4, 6);
+        Check.book(x, "trick c worth 3:feet\"----\"facing 1;trick d worth 4:feet\"l---\";trick e worth 2:feet\"-b--\"from l;");
+        row(x, 0, 0, 1, 0);
+        row(x, 9, 0, 0, 0);
+        row(x, 9, 0, 1, 3, 0);
+        row(x, 9, 1, 0, 2, 4);
+        row(x, 9, 2, 1, 5, 0, 5);
+        Check.book(x, "trick c worth 3:feet\"----\";trick d");
+        row(x, 9, 0, 0, 0);
+        Check.book(x, "trick c worth 7:feet\"----\";");
+        row(x, 0, 0, 1, 0);
+        row(x, 9, 0, 0, 7, 0);
     }
 }

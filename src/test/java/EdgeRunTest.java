@@ -212,6 +212,14 @@ public final class EdgeRunTest {
         RUN.foot(x, 2, 0, -1, 2, 2, 2, 2, -1, -1, -1, -1);
         RUN.faces(x, 2, 0, -1, 0, 1, 1, 1, -1, -1, -1, -1);
         RUN.person(x, 2, 3, 0, -1, -1, -1, 1, -1, -1, -1, -1, -1);
+        for (int trick = 0; trick < 12; trick++) {
+            StringBuilder text = new StringBuilder();
+            for (int i = 0; i < 12; i++) {
+                text.append("trick t").append((char) ('a' + i)).append(" worth 1:feet\"--------\";");
+            }
+            RunCheck in = new RunCheck(CHECK, text.toString());
+            in.person(in.misses("beats 3;at 0 2 in left;at 1 2 does t" + (char) ('a' + trick) + ";"), 2, 3, 0, -1, trick, -1);
+        }
         for (int what = 1; what <= 3; what++) {
             CHECK.due("of one who holds left", x.person(0, 0, what), -1);
             CHECK.due("of one who holds right", x.person(1, 0, what), -1);
@@ -271,14 +279,66 @@ public final class EdgeRunTest {
         for (int person = 0; person < 6; person++) {
             RUN.where(x, person, 0, want[person]);
         }
-        CHECK.of("It is run: the same again, from the beginning, each time");
-        x = RUN.start("beats 9;at 0 2 in left;at 1 2 takes left;at 4 0 in right;at 5 0 does crs;");
+        runAgain();
+        personZeroAndOneIn();
+    }
+
+    private static void runAgain() {
+        CHECK.of("10: The ROUTINE is run: from the beginning, with nothing of the run before");
+        TwoRopes x = RUN.start("beats 9;at 0 2 in left;at 1 2 takes left;at 4 0 in right;at 5 0 does crs;");
         for (int time = 0; time < 3; time++) {
             CHECK.due("run", x.run(), 1);
             RUN.where(x, 0, 0, 2, 2, 0, 0, 1);
             RUN.where(x, 2, 0, 1, 4, 2);
             RUN.modes(x, 0, 0, 0, 0, 0, 1, 0, 0, 0, -1);
+            CHECK.due("DONE", x.ran(2), 1);
+            CHECK.due("GAINED", x.done(0, 4), 1);
+            CHECK.due("behind it", x.done(1, 4), -1);
         }
+        // the last BEAT crossed, broken off, and in the middle of a change of hands
+        x = RUN.start("beats 3;at 0 2 in left;at 0 3 in right;at 2 4 takes left;at 2 3 does cbad;at 2 0 in left;");
+        for (int time = 0; time < 3; time++) {
+            CHECK.due("run", x.run(), -20);
+            RUN.sameMisses(x, "again", 2, 1, 0, 2, 8, 4);
+            RUN.where(x, 4, 0, 0, 0, 4);
+            RUN.where(x, 2, 0, 1, 1, 1);
+            RUN.foot(x, 3, 0, 2, 2, 0);
+        }
+        Check.routine(x, "beats 3;at 0 5 takes left;");
+        x.run();
+        RUN.where(x, 5, 0, 4, 2, 2);
+        RUN.where(x, 0, 0, 2, 0, 0);
+        RUN.where(x, 4, 0, 0, 0, 0);
+        x = RUN.start("beats 2;at 1 5 takes left;");
+        for (int time = 0; time < 3; time++) {
+            x.run();
+            RUN.where(x, 5, 0, 0, 4);
+            RUN.where(x, 0, 0, 2, 2);
+        }
+    }
+
+    private static void personZeroAndOneIn() {
+        CHECK.of("PERSONS are 0 .. 5: 0 and 1, too, come in, RUN, do tricks and take, once they hold no end");
+        String free = "beats 30;at 0 4 takes left;at 0 5 takes right;at 2 0 in left;at 2 1 in right;";
+        TwoRopes x = RUN.misses(free + "at 3 0 does two;at 5 1 does two mirrored;");
+        RUN.where(x, 0, 0, 2, 0, 1, 1);
+        RUN.where(x, 1, 0, 3, 0, 1, 1);
+        RUN.feet(x, 0, 8, 0, 2, 0, 1, 0, 1, 0, 2);
+        RUN.feet(x, 1, 8, 0, 1, 0, 2, 0, 1, 0, 2);
+        RUN.person(x, 0, 3, 3, 1, -1);
+        CHECK.due("DONE by 0", x.done(0, 2), 0);
+        CHECK.due("DONE by 1", x.done(1, 2), 1);
+        RUN.misses(free + "at 3 2 in left;at 3 3 in left;", 3, 2, 3);
+        RUN.misses(free + "at 3 1 does lone;", 3, 6, 1);
+        RUN.misses(free + "at 3 1 out right;at 3 0 does lone;at 4 1 in left;", 4, 6, 1);
+        RUN.misses(free + "at 3 0 does crs;at 3 1 does run;", 3, 7, 0);
+        RUN.misses(free + "at 3 1 does crs;at 3 0 takes left;", 3, 8, 0);
+        x = RUN.misses(free + "at 3 0 does bad;at 3 1 does bad;", 3, 9, 0, 3, 9, 1);
+        RUN.foot(x, 0, 2, 1, 0, 0, 0, 0, 0, 2);
+        RUN.feet(x, 0, 12, 3, 0, 0, 0, 0, 0, 0, 0);
+        x = RUN.misses(free + "at 3 0 takes right;");
+        RUN.where(x, 0, 2, 1, 5, 3);
+        RUN.where(x, 5, 2, 3, 3, 0);
     }
 
     private static void steps() {
@@ -337,6 +397,13 @@ public final class EdgeRunTest {
         laws(RUN, "at 1 2 takes right;", "2 1", acts, 1, 1, 1, 1, 1, 1, 1);
         laws(RUN, "at 1 2 takes right;", "3 1", acts, 0, 0, 1, 1, 1, 0, 0);
 
+        CHECK.of("takes: then they hold it, and who held it is OUT: one behind the other");
+        TwoRopes x = RUN.misses("beats 12;at 0 2 takes left;at 2 3 takes left;at 4 0 takes left;at 6 2 takes left;at 8 3 takes right;");
+        RUN.where(x, 2, 0, 4, 2, 2, 0, 0, 0, 4, 2, 2, 2);
+        RUN.where(x, 3, 0, 0, 0, 4, 2, 2, 0, 0, 0, 5, 3);
+        RUN.where(x, 0, 0, 2, 0, 0, 0, 4, 2, 2, 0, 0, 0);
+        RUN.where(x, 1, 7, 3, 3, 0);
+
         CHECK.of("law 1: an end that is being taken can't be taken");
         laws(RUN, out, "1 3", new String[] {"takes left", "takes right"}, 1, 0);
         laws(RUN, out, "2 3", new String[] {"takes left", "takes right"}, 1, 0);
@@ -368,6 +435,11 @@ public final class EdgeRunTest {
         laws(RUN, one + "at 1 2 does late;", "3 3", ins, 3, 3);
         CHECK.of("\"The BEAT before\": the last one that was not still; plain ahead of the first");
         laws(RUN, "", "0 3", ins, 0, 0);
+        TwoRopes x = RUN.start("beats 2;at 0 2 in left;at 0 3 in right;at 1 2 does crs;");
+        for (int time = 0; time < 2; time++) {
+            x.run();
+            CHECK.due("plain ahead of the first, though the run before ended crossed", x.ran(1), 0);
+        }
         laws(RUN, one + "at 1 2 does cbad;", "6 3", ins, 3, 3);
         laws(RUN, one + "at 1 2 does cbad;", "7 3", ins, 0, 0);
         laws(RUN, one + "at 1 2 does bad;", "6 3", ins, 0, 0);

@@ -17,12 +17,14 @@ public final class EdgeTextTest {
         feedTooMuch();
         endLeast();
         endTooFar();
+        endCutsTexts();
         bookEmptiesTape();
         bookEndsRoutine();
         bookFaultKeepsAll();
         routineEmptiesTape();
         routineNotRunYet();
         routineFaultKeeps();
+        routineHasNothingOfOthers();
         faultOfLatest();
         faultNone();
         faultOtherWhat();
@@ -194,6 +196,45 @@ public final class EdgeTextTest {
         }
     }
 
+    private static void endCutsTexts() {
+        CHECK.of("3: The TAPE has its first n bytes: what stood behind them is no part of the text");
+        cut("trick x worth 1:", 7, 2, 7);
+        cut("trick xyz worth 1:", 8, 2, 8);
+        cut("trick xyzxyzxyz", 14, 2, 14);
+        cut("trick x worth 1:", 14, 2, 14);
+        cut("trick x worth 1x", 15, 2, 15);
+        cut("trick x worth 1234", 17, 2, 17);
+        cut("trick x worth 1  :", 16, 2, 16);
+        cut(ONE + ";", 20, 2, 20);
+        cut(ONE + ";", 21, 1, 20);
+        cut(ONE + ";", 24, 1, 20);
+        cut(ONE + ";", 25, 1, 20);
+        cut(ONE + ";", 26, 2, 26);
+        TwoRopes x = new TwoRopes();
+        Check.put(x, ONE + ";!");
+        x.end(27);
+        CHECK.due("ahead of what is no TOKEN", x.book(), 1);
+        Check.put(x, ONE + ";" + "trick y worth 1:feet\"-l-r\";");
+        x.end(27);
+        CHECK.due("ahead of a second trick", x.book(), 1);
+        Check.put(x, "beats 123;at 0 2 in left;");
+        x.end(9);
+        CHECK.due("ahead of ;", x.routine(), -1);
+        CHECK.due("ahead of ;", x.fault(1), 9);
+        Check.put(x, "beats 123;at 0 2 in left;");
+        x.end(10);
+        CHECK.due("ahead of a line", x.routine(), 0);
+    }
+
+    private static void cut(String text, int end, int fault, int place) {
+        TwoRopes x = new TwoRopes();
+        Check.put(x, text);
+        x.end(end);
+        CHECK.due(text + " cut at " + end, x.book(), -1);
+        CHECK.due(text + " cut at " + end + " fault(0)", x.fault(0), fault);
+        CHECK.due(text + " cut at " + end + " fault(1)", x.fault(1), place);
+    }
+
     // ---- promises 4 to 6
 
     private static void bookEmptiesTape() {
@@ -291,6 +332,24 @@ public final class EdgeTextTest {
         CHECK.due("person", x.person(2, 3, 0), 1);
         CHECK.due("run", x.run(), 9);
         CHECK.due("tricks", x.about(0), 2);
+    }
+
+    private static void routineHasNothingOfOthers() {
+        CHECK.of("5: The TAPE is the ROUTINE: it has nothing of one before, nor of one with a FAULT");
+        TwoRopes x = yard();
+        for (int time = 0; time < 3; time++) {
+            CHECK.due("a FAULT behind two lines", Check.routine(x, "beats 9;at 5 3 in right;at 6 3 does hop mirrored;;"), -1);
+            CHECK.due("one line", Check.routine(x, "beats 4;at 0 2 in left;"), 1);
+            CHECK.due("run", x.run(), 0);
+            CHECK.due("mirrored", Check.routine(x, "beats 6;at 0 2 in left;at 0 2 does hop mirrored;at 4 3 in left;"), 3);
+            CHECK.due("run", x.run(), 9);
+            CHECK.due("mirrored", x.done(0, 3), 1);
+            CHECK.due("not mirrored", Check.routine(x, "beats 5;at 0 2 in left;at 0 2 does hop;"), 2);
+            CHECK.due("run", x.run(), 9);
+            CHECK.due("not mirrored", x.done(0, 3), 0);
+            CHECK.due("nobody else", x.person(3, 4, 0), 0);
+            CHECK.due("BEATS", x.ran(0), 5);
+        }
     }
 
     private static void faultOfLatest() {
@@ -636,6 +695,11 @@ public final class EdgeTextTest {
         fails(ONE + ";trick y worth 1:feet\"-l-r\";trick x", 3, 60);
         fails(ONE + ";trick y worth 1:feet\"-l-r\";trick y", 3, 60);
         stands(ONE + ";trick xx worth 1:feet\"-l-r\";trick xxx worth 1:feet\"-l-r\";", 3);
+        StringBuilder all = new StringBuilder();
+        for (String name : new String[] {"c", "bc", "ac", "ca", "bbc", "aac", "cc", "abc", "bac", "cab", "acb", "aaaaaaac"}) {
+            all.append("trick ").append(name).append(" worth 1:feet\"-l-r\";");
+        }
+        stands(all.toString(), 12);
         String twelve = tricks(11);
         fails(twelve + "trick tk", 3, twelve.length() + 6);
         fails(twelve + "trick ta", 3, twelve.length() + 6);
