@@ -1405,13 +1405,16 @@ public final class TwoRopes {
     /** Finds BEST: sets of tricks are bits; a FOOT and FACES together are a STAND, 4 * FOOT + FACES, sets of them bits. */
     private static final class Joiner {
         private static final int MOST_SETS = 4096;
+        private static final int HALF = 6;
+        private static final int HALF_SETS = 64;
         private static final int ALL_STANDS = 0xFFFF;
         private static final int EACH_FOOT = 0x1111;
 
-        // By set: the STANDS from which all its tricks can be joined in some order, and what they come to.
-        private final int[] begins = new int[MOST_SETS];
-        private final int[] worths = new int[MOST_SETS];
-        private final int[] lengths = new int[MOST_SETS];
+        // By set, four in one number: the STANDS from which all its tricks can be joined in some order.
+        private final long[] begins = new long[MOST_SETS / 4];
+        // What sets of the first six tricks come to, and behind them those of the last six: rows for all sets are dear.
+        private final int[] worths = new int[2 * HALF_SETS];
+        private final int[] lengths = new int[2 * HALF_SETS];
         // By way, 2 * trick, and 1 more if it is mirrored: the STANDS that it begins with, and what it does to them.
         private final int[] wants = new int[2 * Book.MOST_TRICKS];
         private final int[] leaves = new int[2 * Book.MOST_TRICKS];
@@ -1428,7 +1431,30 @@ public final class TwoRopes {
         }
 
         int worthOfRow() {
-            return rowSet >= 0 && rowSet < MOST_SETS ? worths[rowSet] : 0;
+            return sumOf(worths, rowSet);
+        }
+
+        private static int sumOf(int[] halves, int set) {
+            if (set < 0 || set >= MOST_SETS || halves.length < 2 * HALF_SETS) {
+                return 0;
+            }
+            return halves[set % HALF_SETS] + halves[HALF_SETS + set / HALF_SETS];
+        }
+
+        private int standsOf(int set) {
+            if (set < 0 || set >= MOST_SETS) {
+                return 0;
+            }
+            return (int) (begins[set / 4] >> (16 * (set % 4))) & ALL_STANDS;
+        }
+
+        private void keepStands(int set, int stands) {
+            if (set < 0 || set >= MOST_SETS) {
+                return;
+            }
+            int shift = 16 * (set % 4);
+            long others = begins[set / 4] & ~((long) ALL_STANDS << shift);
+            begins[set / 4] = others | ((long) stands << shift);
         }
 
         int tellPlace(int k, int what) {
@@ -1462,18 +1488,23 @@ public final class TwoRopes {
                 setWay(book.list[trick], 2 * trick, false);
                 setWay(book.list[trick], 2 * trick + 1, true);
             }
+            sumUp(book, 0, 0);
+            sumUp(book, HALF, HALF_SETS);
             sets = Math.min(1 << book.count, MOST_SETS);
-            begins[0] = ALL_STANDS;
-            worths[0] = 0;
-            lengths[0] = 0;
+            keepStands(0, ALL_STANDS);
             for (int set = 1; set < sets; set++) {
-                int trick = Integer.numberOfTrailingZeros(set);
-                int rest = set & (set - 1);
-                if (book.has(trick)) {
-                    worths[set] = worths[rest] + book.list[trick].worth;
-                    lengths[set] = lengths[rest] + book.list[trick].beats;
-                }
-                begins[set] = standsFor(set, book.count);
+                keepStands(set, standsFor(set, book.count));
+            }
+        }
+
+        /** What each set of six tricks comes to, from one trick and from one place on. */
+        private void sumUp(Book book, int firstTrick, int place) {
+            for (int set = 1; set < HALF_SETS; set++) {
+                int trick = firstTrick + Integer.numberOfTrailingZeros(set);
+                int rest = place + (set & (set - 1));
+                boolean told = book.has(trick);
+                worths[place + set] = worths[rest] + (told ? book.list[trick].worth : 0);
+                lengths[place + set] = lengths[rest] + (told ? book.list[trick].beats : 0);
             }
         }
 
@@ -1500,7 +1531,7 @@ public final class TwoRopes {
                 if (((set >> trick) & 1) == 0) {
                     continue;
                 }
-                int behind = begins[set ^ (1 << trick)];
+                int behind = standsOf(set ^ (1 << trick));
                 if (behind != 0) {
                     stands |= standsAhead(2 * trick, behind) | standsAhead(2 * trick + 1, behind);
                 }
@@ -1527,13 +1558,18 @@ public final class TwoRopes {
         /** As sets come in the order of their bits, the first of like ones stays. */
         private int bestSet(int n, int stand) {
             int chosen = 0;
+            int mostWorth = 0;
+            int fewestBeats = 0;
             for (int set = 1; set < sets; set++) {
-                if (((begins[set] >> stand) & 1) == 0 || lengths[set] > n) {
+                int beats = sumOf(lengths, set);
+                if (((standsOf(set) >> stand) & 1) == 0 || beats > n) {
                     continue;
                 }
-                boolean worthier = worths[set] > worths[chosen];
-                if (worthier || worths[set] == worths[chosen] && lengths[set] < lengths[chosen]) {
+                int worth = sumOf(worths, set);
+                if (worth > mostWorth || worth == mostWorth && beats < fewestBeats) {
                     chosen = set;
+                    mostWorth = worth;
+                    fewestBeats = beats;
                 }
             }
             return chosen;
@@ -1560,7 +1596,7 @@ public final class TwoRopes {
             for (int way = 0; way < wants.length; way++) {
                 int bit = 1 << (way / 2);
                 boolean can = (rest & bit) != 0 && ((wants[way] >> stand) & 1) != 0;
-                if (can && ((begins[rest ^ bit] >> standBehind(way, stand)) & 1) != 0) {
+                if (can && ((standsOf(rest ^ bit) >> standBehind(way, stand)) & 1) != 0) {
                     return way;
                 }
             }
@@ -1631,8 +1667,11 @@ public final class TwoRopes {
         private static final int MOST_SIGNS = 200;
         private static final int MOST_TIME = 100000;
         private static final int MOST_LATER = 1000;
+        private static final int SIGNS_IN_ONE = 20;
+        private static final int ROW = MOST_SIGNS / SIGNS_IN_ONE;
 
-        private final byte[] signs = new byte[MOST_TAPES * MOST_SIGNS];
+        // Of each TAPE ten numbers with twenty signs each, three bits a sign.
+        private final long[] signs = new long[MOST_TAPES * ROW];
         private final int[] judgeOf = new int[MOST_TAPES];
         private final int[] personOf = new int[MOST_TAPES];
         private final int[] firstTick = new int[MOST_TAPES];
@@ -1658,7 +1697,7 @@ public final class TwoRopes {
                 if (sign == NONE) {
                     return NONE;
                 }
-                signs[count * MOST_SIGNS + i] = (byte) sign;
+                keepSign(i, sign);
             }
             judgeOf[count] = judge;
             personOf[count] = person;
@@ -1668,6 +1707,13 @@ public final class TwoRopes {
             untoldAt[count] = NONE;
             count++;
             return count - 1;
+        }
+
+        /** Signs come from the first on: a number's first one wipes what a refused TAPE left there. */
+        private void keepSign(int i, int sign) {
+            int at = count * ROW + i / SIGNS_IN_ONE;
+            long ahead = i % SIGNS_IN_ONE == 0 ? 0 : signs[at];
+            signs[at] = ahead | ((long) sign << (3 * (i % SIGNS_IN_ONE)));
         }
 
         boolean takeBack(int number) {
@@ -1722,7 +1768,10 @@ public final class TwoRopes {
 
         private int signOf(int number, int tick) {
             int at = tick - firstTick[number];
-            return at >= 0 && at < lengthOf[number] && at < MOST_SIGNS ? signs[number * MOST_SIGNS + at] : OPEN;
+            if (at < 0 || at >= lengthOf[number] || at >= MOST_SIGNS) {
+                return OPEN;
+            }
+            return (int) (signs[number * ROW + at / SIGNS_IN_ONE] >> (3 * (at % SIGNS_IN_ONE))) & 7;
         }
 
         int countSteps(int foot, int x, int y, boolean most) {
