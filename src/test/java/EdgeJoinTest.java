@@ -264,6 +264,15 @@ public final class EdgeJoinTest {
                 askOne(x, second);
             }
         }
+        TwoRopes any = book("5:feet\"-l-r\"");
+        for (int faces = 0; faces <= 3; faces++) {
+            for (int foot = 0; foot <= 3; foot++) {
+                CHECK.due("in one BEAT", any.best(1, 0, 0), 5);
+                CHECK.due("in no BEAT", any.best(0, foot, faces), 0);
+                CHECK.due("in one BEAT", any.best(1, foot, faces), 5);
+                CHECK.due("in no BEAT", any.best(0, 3, 3), 0);
+            }
+        }
         TwoRopes x = book("5:feet\"-l-r-l-r\"", "6:feet\"-l-r\"");
         CHECK.due("joined ahead of best", x.joined(3, 0, 0, 1, 0), 1);
         CHECK.due("joined of another n", x.joined(1, 0, 0, 0, 0), 1);
