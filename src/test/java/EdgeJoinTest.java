@@ -245,14 +245,32 @@ public final class EdgeJoinTest {
         row(x, 200, 0, 0, 11988, all);
         row(x, 96, 3, 3, 11988, all);
         row(x, 95, 0, 0, 10989, 0, 2, 4, 6, 8, 10, 12, 14, 16, 18, 20);
-        // a chain through all twelve, the last ahead of the first
-        String feet = "-b--";
         for (int i = 0; i < 12; i++) {
-            tricks[i] = "1:feet\"" + feet + "\"turn 1 facing " + (3 - (i % 4)) + " from b";
+            tricks[i] = i + 1 + ":feet\"" + "----".repeat(i % 3 + 1) + "\"facing " + i % 4;
         }
         x = book(tricks);
-        CHECK.due("worth", x.best(200, 3, 0), 12);
-        CHECK.due("first", x.joined(200, 3, 0, 0, 0), 3);
+        for (int faces = 0; faces <= 3; faces++) {
+            row(x, 200, 0, faces, 3 * faces + 15, 2 * faces, 2 * (faces + 4), 2 * (faces + 8));
+            row(x, 6, 3, faces, 3 * faces + 15, 2 * faces, 2 * (faces + 4), 2 * (faces + 8));
+            row(x, 5, 1, faces, 2 * faces + 14, 2 * (faces + 4), 2 * (faces + 8));
+        }
+        for (int i = 0; i < 12; i++) {
+            tricks[i] = "1:feet\"" + "----".repeat(i % 8 + 1) + "\"";
+        }
+        x = book(tricks);
+        row(x, 1, 0, 0, 1, 0);
+        row(x, 2, 0, 0, 2, 0, 16);
+        row(x, 4, 0, 0, 3, 0, 2, 16);
+        row(x, 6, 0, 0, 4, 0, 2, 16, 18);
+        row(x, 11, 0, 0, 5, 0, 2, 4, 16, 18);
+        for (int i = 0; i < 12; i++) {
+            tricks[i] = 10 * (i + 1) + ":feet\"----\"";
+        }
+        x = book(tricks);
+        row(x, 1, 0, 0, 120, 22);
+        row(x, 2, 0, 0, 230, 20, 22);
+        row(x, 7, 0, 0, 630, 10, 12, 14, 16, 18, 20, 22);
+        row(x, 11, 0, 0, 770, 2, 4, 6, 8, 10, 12, 14, 16, 18, 20, 22);
     }
 
     private static void eachAskedForItself() {

@@ -9,6 +9,7 @@ public final class EdgeJudgeTest {
         tapeTooLong();
         tapeNoneSuch();
         tapeThirty();
+        tapesAllFull();
         tapeEmpty();
         untellTwice();
         untellNone();
@@ -108,6 +109,22 @@ public final class EdgeJudgeTest {
         CHECK.due("the last one", x.seen(0, 116, 0), 3);
         CHECK.due("the first one", x.seen(0, 0, 0), 1);
         CHECK.due("the UNTOLD one", x.seen(0, 20, 0), 4);
+    }
+
+    private static void tapesAllFull() {
+        CHECK.of("TAPES, 30 at most: signs (at most 200): thirty of 200 signs each, none mixed with another");
+        TwoRopes x = new TwoRopes();
+        String signs = "-lrb";
+        for (int i = 0; i < 30; i++) {
+            char last = signs.charAt(i % 4);
+            CHECK.due("tape " + i, Check.tape(x, "?".repeat(i) + "lr" + "?".repeat(197 - i) + last, i / 6 % 3, i % 6, i / 6), i);
+        }
+        for (int i = 0; i < 30; i++) {
+            int first = 4 * (i / 6);
+            CHECK.due("sign " + i, x.seen(i % 6, first + i, 0), 1);
+            CHECK.due("sign " + (i + 1), x.seen(i % 6, first + i + 1, 0), 2);
+            CHECK.due("the last sign of " + i, x.seen(i % 6, first + 199, 0), i % 4);
+        }
     }
 
     private static void tapeEmpty() {
