@@ -14,6 +14,7 @@ public final class EdgeJoinTest {
         footWanted();
         facesWanted();
         facesAround();
+        facesAroundKeepFoot();
         footAsBefore();
         greatestWorth();
         fewestBeats();
@@ -169,6 +170,23 @@ public final class EdgeJoinTest {
         row(book("5:feet\"----\"turn 3", "5:feet\"----\"facing 1"), 9, 0, 0, 10, 1, 2);
         row(book("5:feet\"----\"turn 2", "5:feet\"----\"facing 1"), 9, 0, 3, 10, 0, 2);
         row(book("5:feet\"----\"turn 3", "5:feet\"----\"turn 3 facing 2", "5:feet\"----\"facing 1"), 9, 0, 3, 15, 0, 2, 4);
+    }
+
+    private static void facesAroundKeepFoot() {
+        CHECK.of("FACES around: a turn changes no FOOT");
+        for (int turn = 1; turn <= 3; turn++) {
+            for (int facing = 0; facing <= 3; facing++) {
+                TwoRopes x = book("5:feet\"----\"turn " + turn, "5:feet\"----\"from b facing " + facing);
+                for (int foot = 0; foot <= 3; foot++) {
+                    for (int faces = 0; faces <= 3; faces++) {
+                        boolean atOnce = faces == facing;
+                        boolean turned = (faces + turn) % 4 == facing || (faces + 4 - turn) % 4 == facing;
+                        int want = foot == 3 && (atOnce || turned) ? 10 : 5;
+                        CHECK.due("turn " + turn + " facing " + facing + " best(9, " + foot + ", " + faces + ")", x.best(9, foot, faces), want);
+                    }
+                }
+            }
+        }
     }
 
     private static void footAsBefore() {

@@ -366,6 +366,13 @@ public final class EdgeRunTest {
         x = RUN.misses("beats 9;at 0 2 in left;at 0 2 does spin;at 1 2 does jump;at 2 2 does spin;");
         RUN.foot(x, 2, 0, 1, 3, 3, 2);
 
+        CHECK.of("FOOT (what was last down, at the end of a BEAT)");
+        RunCheck in = new RunCheck(CHECK, "trick x worth 1:feet\"-l--r-------l---\"off a 1 off a 3;trick y worth 1:feet\"----b---\"off a 1;");
+        x = in.misses("beats 9;at 0 2 in right;at 1 2 does x;at 5 2 does y;");
+        in.foot(x, 2, 0, 2, 1, 2, 2, 1, 1, 3);
+        in.feet(x, 2, 4, 0, 1, 0, 0, 2, 0, 0, 0, 0, 0, 0, 0, 1, 0, 0, 0, 0, 0, 0, 0, 3, 0, 0, 0);
+        in.where(x, 2, 0, 1, 1, 1, 1, 1, 1, 1);
+
         CHECK.of("FACES (0 .. 3), turned in quarters to the right, mirrored the other way: around");
         x = WANTS.misses("beats 9;at 0 2 in left;at 0 2 does three;at 1 2 does one;at 2 2 does one mirrored;at 3 2 does two;"
             + "at 4 2 does three mirrored;at 5 2 does three;at 6 2 does three;at 7 2 does two mirrored;");

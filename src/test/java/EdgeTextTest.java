@@ -47,6 +47,7 @@ public final class EdgeTextTest {
         facingRange();
         fromSides();
         onceEach();
+        cannotStandThere();
         firstFaultByPlace();
         faultAtTheEnd();
         leastFaultAtOnePlace();
@@ -398,6 +399,13 @@ public final class EdgeTextTest {
         stands(ONE + " ".repeat(1400 - ONE.length() - 1) + ";", 1);
         fails(" ".repeat(1399) + "!", 1, 1399);
         fails(ONE + "\n".repeat(1400 - ONE.length()), 2, 1400);
+        // the last byte in the middle of each kind of TOKEN
+        fails(" ".repeat(1392) + "trick xx", 2, 1400);
+        fails(" ".repeat(1384) + "trick x worth 12", 2, 1400);
+        fails(" ".repeat(1376) + "trick x worth 1:feet\"-lr", 1, 1396);
+        fails(" ".repeat(1375) + "trick x worth 1:feet\"-lr-", 1, 1395);
+        fails(" ".repeat(1379) + "trick x worth 1:feet\"", 1, 1399);
+        fails(" ".repeat(1374) + ONE, 2, 1400);
     }
 
     private static void wordLetters() {
@@ -634,6 +642,49 @@ public final class EdgeTextTest {
         // of each trick anew, and cross and off as often as BEATS are free
         stands(THREE + "cross 0 cross 2 off a 1;", 1);
         stands(THREE + "off a 0 off a 2 off b 1;", 1);
+    }
+
+    private static void cannotStandThere() {
+        CHECK.of("FAULTS: 2 one that can't stand there");
+        // each place of a text with each kind of TOKEN, but for those that can stand there
+        String[] kinds = {"zz", "1", "\"-l-r\"", ":", ";", "worth", "to", "l"};
+        String[] trick = {"trick", "x", "worth", "1", ":", "feet", "\"-l-r\"", "cross", "0", "turn", "1", "from", "l", "facing", "1", ";"};
+        String[] canStand = {"trick", "zz", "worth", "1", ":", "feet", "\"-l-r\"", ";", "", "; to", "1", ";", "l", ";", "1", ";"};
+        for (int place = 0; place < trick.length; place++) {
+            for (String kind : kinds) {
+                if (!(" " + canStand[place] + " ").contains(" " + kind + " ")) {
+                    placeFails(trick, place, kind, true);
+                }
+            }
+        }
+        String[] routine = {"beats", "9", ";", "at", "0", "2", "does", "run", "mirrored", ";", "at", "0", "2", "in", "left", ";"};
+        String[] canRun = {"beats", "1", ";", "at", "1", "1", "does", "zz", ";", ";", "at", "1", "1", "in", "left", ";"};
+        for (int place = 0; place < routine.length; place++) {
+            for (String kind : kinds) {
+                if (!(" " + canRun[place] + " ").contains(" " + kind + " ")) {
+                    placeFails(routine, place, kind, false);
+                }
+            }
+        }
+    }
+
+    private static void placeFails(String[] tokens, int place, String kind, boolean ofBook) {
+        StringBuilder text = new StringBuilder();
+        for (int i = 0; i < place; i++) {
+            text.append(tokens[i]).append(' ');
+        }
+        // 1 is no BEAT of that trick: a number can stand there, but not this one
+        boolean number = ofBook && place == 8 && kind.equals("1");
+        int at = text.length();
+        text.append(kind);
+        for (int i = place + 1; i < tokens.length; i++) {
+            text.append(' ').append(tokens[i]);
+        }
+        if (ofBook) {
+            fails(text.toString(), number ? 4 : 2, at);
+        } else {
+            routineFails(text.toString(), 2, at);
+        }
     }
 
     private static void firstFaultByPlace() {
